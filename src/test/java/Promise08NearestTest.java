@@ -75,6 +75,8 @@ public final class Promise08NearestTest {
                 check.same("2^" + p + " with sign " + sign, x.nearest(0), due);
             }
             TripleSums x = new TripleSums();
+            x.add(1, Numbers.GREATEST, Numbers.of(2), Numbers.ONE, sign);
+            check.same("twice the greatest with sign " + sign, x.nearest(1), due);
             Numbers.makeHalfLimit(x, 0, sign);
             check.same("2^3149 with sign " + sign, x.nearest(0), due);
         }
