@@ -1,14 +1,24 @@
+import java.util.LinkedHashMap;
+import java.util.Map;
+
 /** Counts answers that are not as due and tells each; a test's main ends with end(). */
 final class Check {
     interface Call {
         void run();
     }
 
-    private int checked = 0;
+    private final Map<String, Integer> checked = new LinkedHashMap<>();
+    private String sentence = "";
     private int wrong = 0;
 
+    /** Names the document's sentence that the checks from here on hold the class to. */
+    void sentence(String section, String text) {
+        sentence = section + ", \"" + text + "\"";
+        checked.putIfAbsent(sentence, 0);
+    }
+
     void same(String what, Object got, Object due) {
-        checked++;
+        count();
         if (!got.equals(due)) {
             tell(what + " answered " + got + ", due is " + due);
         }
@@ -18,8 +28,17 @@ final class Check {
         same(what, holds, true);
     }
 
+    void accepts(String what, Call call) {
+        count();
+        try {
+            call.run();
+        } catch (RuntimeException e) {
+            tell(what + " threw " + e + ", due is nothing");
+        }
+    }
+
     void refuses(String what, Class<? extends RuntimeException> due, Call call) {
-        checked++;
+        count();
         try {
             call.run();
         } catch (RuntimeException e) {
@@ -35,18 +54,36 @@ final class Check {
         refuses(what, IndexOutOfBoundsException.class, call);
     }
 
-    /** Fails a test that checked nothing, too. */
+    void illegal(String what, Call call) {
+        refuses(what, IllegalArgumentException.class, call);
+    }
+
+    void tooLarge(String what, Call call) {
+        refuses(what, IllegalStateException.class, call);
+    }
+
+    /** Fails a test, or a sentence of one, that checked nothing, too. */
     void end() {
-        if (wrong != 0 || checked == 0) {
-            System.out.println(wrong + " of " + checked + " checks are wrong");
+        boolean idle = checked.isEmpty() || checked.containsValue(0);
+        for (Map.Entry<String, Integer> entry : checked.entrySet()) {
+            if (wrong != 0 || idle || !entry.getKey().isEmpty()) {
+                System.out.println("     " + entry.getValue() + " checks: " + entry.getKey());
+            }
+        }
+        if (wrong != 0 || idle) {
+            System.out.println(wrong + " checks are wrong" + (idle ? ", and a part has none" : ""));
             System.exit(1);
         }
+    }
+
+    private void count() {
+        checked.merge(sentence, 1, Integer::sum);
     }
 
     private void tell(String text) {
         wrong++;
         if (wrong <= 50) {
-            System.out.println(text);
+            System.out.println((sentence.isEmpty() ? "" : sentence + ": ") + text);
         }
     }
 }

@@ -8,6 +8,7 @@ public final class MemoryTest {
 
     public static void main(String[] args) {
         Check check = new Check();
+        check.sentence("Terms", "All memory is made with the object.");
         ThreadMXBean bean = (ThreadMXBean) ManagementFactory.getThreadMXBean();
         // The first time loads classes, which takes memory that is none of the calls'.
         madeByCalls(bean);

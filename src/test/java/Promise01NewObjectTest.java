@@ -1,14 +1,21 @@
 import java.math.BigInteger;
 
-/** A new object: eight sums, all 0; and no object's sums are another one's. */
+/** Promise 1, a new object. */
 public final class Promise01NewObjectTest {
     public static void main(String[] args) {
         Check check = new Check();
-        allAreZero(check, new TripleSums());
+        eightSumsAllZero(check);
         objectsStandApart(check);
         sumsStandApart(check);
-        check.same("NONE", TripleSums.NONE, -100000);
         check.end();
+    }
+
+    private static void eightSumsAllZero(Check check) {
+        check.sentence("Promise 1", "Eight sums, all 0.");
+        TripleSums x = new TripleSums();
+        allAreZero(check, x);
+        check.noSuchSum("a sum before the first", () -> x.sign(-1));
+        check.noSuchSum("a ninth sum", () -> x.sign(8));
     }
 
     private static void allAreZero(Check check, TripleSums x) {
@@ -18,10 +25,13 @@ public final class Promise01NewObjectTest {
             check.same("nearest(" + s + ")", x.nearest(s), 0L);
             check.same("top(" + s + ")", x.top(s), TripleSums.NONE);
             check.same("bottom(" + s + ")", x.bottom(s), TripleSums.NONE);
+            check.same("compare(" + s + ", 0)", x.compare(s, 0), 0);
+            check.same("word(" + s + ", -3222)", x.word(s, -3222), 0L);
         }
     }
 
     private static void objectsStandApart(Check check) {
+        check.sentence("Promise 1", "Eight sums, all 0.");
         TripleSums used = new TripleSums();
         for (int s = 0; s < 8; s++) {
             used.add(s, Numbers.ONE, Numbers.ONE, Numbers.ONE, 1);
@@ -30,6 +40,7 @@ public final class Promise01NewObjectTest {
     }
 
     private static void sumsStandApart(Check check) {
+        check.sentence("Promise 1", "Eight sums, all 0.");
         for (int s = 0; s < 8; s++) {
             TripleSums x = new TripleSums();
             x.add(s, Numbers.ONE, Numbers.ONE, Numbers.ONE, 1);
