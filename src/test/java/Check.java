@@ -1,5 +1,6 @@
 import java.util.LinkedHashMap;
 import java.util.Map;
+import java.util.function.Consumer;
 
 /** Counts answers that are not as due and tells each; a test's main ends with end(). */
 final class Check {
@@ -8,8 +9,17 @@ final class Check {
     }
 
     private final Map<String, Integer> checked = new LinkedHashMap<>();
+    private final Map<String, Integer> wrong = new LinkedHashMap<>();
     private String sentence = "";
-    private int wrong = 0;
+
+    /** Runs a part of a test; what it throws is told as wrong, and the other parts still run. */
+    void test(Consumer<Check> part) {
+        try {
+            part.accept(this);
+        } catch (RuntimeException e) {
+            tell("the test was stopped by " + e);
+        }
+    }
 
     /** Names the document's sentence that the checks from here on hold the class to. */
     void sentence(String section, String text) {
@@ -64,14 +74,16 @@ final class Check {
 
     /** Fails a test, or a sentence of one, that checked nothing, too. */
     void end() {
-        boolean idle = checked.isEmpty() || checked.containsValue(0);
+        boolean failed = checked.isEmpty() || !wrong.isEmpty();
         for (Map.Entry<String, Integer> entry : checked.entrySet()) {
-            if (wrong != 0 || idle || !entry.getKey().isEmpty()) {
-                System.out.println("     " + entry.getValue() + " checks: " + entry.getKey());
+            int count = entry.getValue();
+            int bad = wrong.getOrDefault(entry.getKey(), 0);
+            failed |= count == 0;
+            if (count == 0 || bad > 0 || !entry.getKey().isEmpty()) {
+                System.out.println("     " + count + " checks, " + bad + " wrong: " + entry.getKey());
             }
         }
-        if (wrong != 0 || idle) {
-            System.out.println(wrong + " checks are wrong" + (idle ? ", and a part has none" : ""));
+        if (failed) {
             System.exit(1);
         }
     }
@@ -81,8 +93,7 @@ final class Check {
     }
 
     private void tell(String text) {
-        wrong++;
-        if (wrong <= 50) {
+        if (wrong.merge(sentence, 1, Integer::sum) <= 10) {
             System.out.println((sentence.isEmpty() ? "" : sentence + ": ") + text);
         }
     }

@@ -4,9 +4,9 @@ import java.math.BigInteger;
 public final class Promise01NewObjectTest {
     public static void main(String[] args) {
         Check check = new Check();
-        eightSumsAllZero(check);
-        objectsStandApart(check);
-        sumsStandApart(check);
+        check.test(Promise01NewObjectTest::eightSumsAllZero);
+        check.test(Promise01NewObjectTest::objectsStandApart);
+        check.test(Promise01NewObjectTest::sumsStandApart);
         check.end();
     }
 

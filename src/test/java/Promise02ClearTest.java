@@ -4,9 +4,9 @@ import java.math.BigInteger;
 public final class Promise02ClearTest {
     public static void main(String[] args) {
         Check check = new Check();
-        becomesZero(check);
-        clearsLargeAndSmall(check);
-        noSuchSum(check);
+        check.test(Promise02ClearTest::becomesZero);
+        check.test(Promise02ClearTest::clearsLargeAndSmall);
+        check.test(Promise02ClearTest::noSuchSum);
         check.end();
     }
 

@@ -6,16 +6,16 @@ public final class Promise03AddTest {
 
     public static void main(String[] args) {
         Check check = new Check();
-        ordinary(check);
-        signs(check);
-        zeros(check);
-        extremes(check);
-        cancels(check);
-        carriesAllTheWay(check);
-        mayPassTheLimitOfPlus(check);
-        noSuchSum(check);
-        notFinite(check);
-        timesOutOfRange(check);
+        check.test(Promise03AddTest::ordinary);
+        check.test(Promise03AddTest::signs);
+        check.test(Promise03AddTest::zeros);
+        check.test(Promise03AddTest::extremes);
+        check.test(Promise03AddTest::cancels);
+        check.test(Promise03AddTest::carriesAllTheWay);
+        check.test(Promise03AddTest::mayPassTheLimitOfPlus);
+        check.test(Promise03AddTest::noSuchSum);
+        check.test(Promise03AddTest::notFinite);
+        check.test(Promise03AddTest::timesOutOfRange);
         check.end();
     }
 

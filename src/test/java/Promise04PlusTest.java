@@ -7,15 +7,15 @@ public final class Promise04PlusTest {
 
     public static void main(String[] args) {
         Check check = new Check();
-        ordinary(check);
-        wideSums(check);
-        ofItself(check);
-        noSuchSums(check);
-        timesOutOfRange(check);
-        aroundTheLimit(check);
-        farBeyondTheLimit(check);
-        fromBeyondTheLimit(check);
-        itStays(check);
+        check.test(Promise04PlusTest::ordinary);
+        check.test(Promise04PlusTest::wideSums);
+        check.test(Promise04PlusTest::ofItself);
+        check.test(Promise04PlusTest::noSuchSums);
+        check.test(Promise04PlusTest::timesOutOfRange);
+        check.test(Promise04PlusTest::aroundTheLimit);
+        check.test(Promise04PlusTest::farBeyondTheLimit);
+        check.test(Promise04PlusTest::fromBeyondTheLimit);
+        check.test(Promise04PlusTest::itStays);
         check.end();
     }
 

@@ -5,10 +5,10 @@ public final class Promise05SignTest {
 
     public static void main(String[] args) {
         Check check = new Check();
-        aroundZero(check);
-        ofPowers(check);
-        ofLargeSums(check);
-        noSuchSum(check);
+        check.test(Promise05SignTest::aroundZero);
+        check.test(Promise05SignTest::ofPowers);
+        check.test(Promise05SignTest::ofLargeSums);
+        check.test(Promise05SignTest::noSuchSum);
         check.end();
     }
 

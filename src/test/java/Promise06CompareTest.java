@@ -4,10 +4,10 @@ public final class Promise06CompareTest {
 
     public static void main(String[] args) {
         Check check = new Check();
-        inOrder(check);
-        byOneUnit(check);
-        aroundZero(check);
-        noSuchSums(check);
+        check.test(Promise06CompareTest::inOrder);
+        check.test(Promise06CompareTest::byOneUnit);
+        check.test(Promise06CompareTest::aroundZero);
+        check.test(Promise06CompareTest::noSuchSums);
         check.end();
     }
 

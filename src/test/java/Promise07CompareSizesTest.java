@@ -5,10 +5,10 @@ public final class Promise07CompareSizesTest {
 
     public static void main(String[] args) {
         Check check = new Check();
-        inOrder(check);
-        byOneUnit(check);
-        withZero(check);
-        noSuchSums(check);
+        check.test(Promise07CompareSizesTest::inOrder);
+        check.test(Promise07CompareSizesTest::byOneUnit);
+        check.test(Promise07CompareSizesTest::withZero);
+        check.test(Promise07CompareSizesTest::noSuchSums);
         check.end();
     }
 

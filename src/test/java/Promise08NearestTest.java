@@ -14,12 +14,12 @@ public final class Promise08NearestTest {
 
     public static void main(String[] args) {
         Check check = new Check();
-        finiteNumbersAreKept(check);
-        everyExponentIsKept(check);
-        halfWayUp(check);
-        twiceTheGreatest(check);
-        itChangesNothing(check);
-        noSuchSum(check);
+        check.test(Promise08NearestTest::finiteNumbersAreKept);
+        check.test(Promise08NearestTest::everyExponentIsKept);
+        check.test(Promise08NearestTest::halfWayUp);
+        check.test(Promise08NearestTest::twiceTheGreatest);
+        check.test(Promise08NearestTest::itChangesNothing);
+        check.test(Promise08NearestTest::noSuchSum);
         check.end();
     }
 

@@ -4,10 +4,10 @@ public final class Promise09TopTest {
 
     public static void main(String[] args) {
         Check check = new Check();
-        aroundPowers(check);
-        ofLargeSums(check);
-        noneForZero(check);
-        noSuchSum(check);
+        check.test(Promise09TopTest::aroundPowers);
+        check.test(Promise09TopTest::ofLargeSums);
+        check.test(Promise09TopTest::noneForZero);
+        check.test(Promise09TopTest::noSuchSum);
         check.end();
     }
 

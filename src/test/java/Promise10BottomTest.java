@@ -4,10 +4,10 @@ public final class Promise10BottomTest {
 
     public static void main(String[] args) {
         Check check = new Check();
-        ofPowers(check);
-        ofLargeSums(check);
-        noneForZero(check);
-        noSuchSum(check);
+        check.test(Promise10BottomTest::ofPowers);
+        check.test(Promise10BottomTest::ofLargeSums);
+        check.test(Promise10BottomTest::noneForZero);
+        check.test(Promise10BottomTest::noSuchSum);
         check.end();
     }
 

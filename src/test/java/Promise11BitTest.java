@@ -10,12 +10,12 @@ public final class Promise11BitTest {
 
     public static void main(String[] args) {
         Check check = new Check();
-        aroundOneBit(check);
-        ofMixedSums(check);
-        ofAllOnes(check);
-        ofZero(check);
-        forAnyP(check);
-        noSuchSum(check);
+        check.test(Promise11BitTest::aroundOneBit);
+        check.test(Promise11BitTest::ofMixedSums);
+        check.test(Promise11BitTest::ofAllOnes);
+        check.test(Promise11BitTest::ofZero);
+        check.test(Promise11BitTest::forAnyP);
+        check.test(Promise11BitTest::noSuchSum);
         check.end();
     }
 

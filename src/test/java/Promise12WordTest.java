@@ -10,12 +10,12 @@ public final class Promise12WordTest {
 
     public static void main(String[] args) {
         Check check = new Check();
-        slides(check);
-        oneBit(check);
-        ofAllOnes(check);
-        atTheEnds(check);
-        forAnyP(check);
-        noSuchSum(check);
+        check.test(Promise12WordTest::slides);
+        check.test(Promise12WordTest::oneBit);
+        check.test(Promise12WordTest::ofAllOnes);
+        check.test(Promise12WordTest::atTheEnds);
+        check.test(Promise12WordTest::forAnyP);
+        check.test(Promise12WordTest::noSuchSum);
         check.end();
     }
 

@@ -7,12 +7,12 @@ public final class TermsBitsTest {
 
     public static void main(String[] args) {
         Check check = new Check();
-        whereItsPartsStand(check);
-        fromExponentOneOn(check);
-        exponentZero(check);
-        belowZero(check);
-        minusZero(check);
-        exponent2047(check);
+        check.test(TermsBitsTest::whereItsPartsStand);
+        check.test(TermsBitsTest::fromExponentOneOn);
+        check.test(TermsBitsTest::exponentZero);
+        check.test(TermsBitsTest::belowZero);
+        check.test(TermsBitsTest::minusZero);
+        check.test(TermsBitsTest::exponent2047);
         check.end();
     }
 

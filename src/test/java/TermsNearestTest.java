@@ -9,12 +9,13 @@ public final class TermsNearestTest {
 
     public static void main(String[] args) {
         Check check = new Check();
-        theNearer(check);
-        theEvenOne(check);
-        zero(check);
-        zeroWithItsSign(check);
-        aroundInfinite(check);
-        infinite(check);
+        check.test(TermsNearestTest::theNearer);
+        check.test(TermsNearestTest::theNearerByOneBit);
+        check.test(TermsNearestTest::theEvenOne);
+        check.test(TermsNearestTest::zero);
+        check.test(TermsNearestTest::zeroWithItsSign);
+        check.test(TermsNearestTest::aroundInfinite);
+        check.test(TermsNearestTest::infinite);
         check.end();
     }
 
@@ -56,6 +57,25 @@ public final class TermsNearestTest {
                 check.same(what + ", a quarter of the way", x.nearest(0), mark | bits);
                 Numbers.addPower(x, 0, half(bits), sign);
                 check.same(what + ", three quarters of the way", x.nearest(0), mark | bits + 1);
+            }
+        }
+    }
+
+    /** Beside half way by 2^q alone, for each q there is: no bit is too low to count. */
+    private static void theNearerByOneBit(Check check) {
+        check.sentence("Terms", "NEAREST to a sum is the finite number nearest to it");
+        long[] evens = {0L, 1L << 52, Numbers.of(1), Numbers.GREATEST - 1};
+        for (long bits : evens) {
+            for (int q = Numbers.LOWEST; q < half(bits); q++) {
+                int sign = (q & 1) == 0 ? 1 : -1;
+                String what = "half way from " + named(bits, sign);
+                TripleSums above = halfWay(bits, sign);
+                Numbers.addPower(above, 0, q, sign);
+                long due = Numbers.mark(sign) | bits + 1;
+                check.same(what + " and 2^" + q, above.nearest(0), due);
+                TripleSums below = halfWay(bits + 1, sign);
+                Numbers.addPower(below, 0, q, -sign);
+                check.same("from one more, less 2^" + q, below.nearest(0), due);
             }
         }
     }
@@ -149,7 +169,17 @@ public final class TermsNearestTest {
                 Numbers.addPower(x, 0, p, sign);
                 check.same("2^" + p + " with sign " + sign, x.nearest(0), due);
             }
+            for (int p = 1024; p <= 3068; p++) {
+                TripleSums x = new TripleSums();
+                Numbers.addPower(x, 0, p + 1, sign);
+                Numbers.addUnit(x, 0, -sign);
+                check.same("2^" + (p + 1) + " less a unit, sign " + sign, x.nearest(0), due);
+                Numbers.addPower(x, 1, p, 3 * sign);
+                check.same("2^" + p + " * 3, sign " + sign, x.nearest(1), due);
+            }
             TripleSums x = new TripleSums();
+            Numbers.addNumber(x, 1, Numbers.GREATEST, 2 * sign);
+            check.same("twice the greatest with sign " + sign, x.nearest(1), due);
             Numbers.makeMost(x, 0, sign);
             check.same("2^3150 less a unit with sign " + sign, x.nearest(0), due);
             Numbers.addUnit(x, 0, sign);

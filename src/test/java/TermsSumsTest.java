@@ -12,14 +12,14 @@ public final class TermsSumsTest {
 
     public static void main(String[] args) {
         Check check = new Check();
-        zeroToSeven(check);
-        exactNumbers(check);
-        atFirstZero(check);
-        sizeWithoutSign(check);
-        multiplesOfTheUnit(check);
-        bitsOfTheSize(check);
-        none(check);
-        lastOf512Calls(check);
+        check.test(TermsSumsTest::zeroToSeven);
+        check.test(TermsSumsTest::exactNumbers);
+        check.test(TermsSumsTest::atFirstZero);
+        check.test(TermsSumsTest::sizeWithoutSign);
+        check.test(TermsSumsTest::multiplesOfTheUnit);
+        check.test(TermsSumsTest::bitsOfTheSize);
+        check.test(TermsSumsTest::none);
+        check.test(TermsSumsTest::lastOf512Calls);
         check.end();
     }
 
@@ -53,6 +53,13 @@ public final class TermsSumsTest {
             for (int s : Numbers.NO_SUMS) {
                 check.noSuchSum(call.getKey() + ", s = " + s, () -> call.getValue().run(x, s));
             }
+        }
+        TripleSums counted = new TripleSums();
+        for (int s = 0; s <= 7; s++) {
+            Numbers.addNumber(counted, s, Numbers.ONE, s + 1);
+        }
+        for (int s = 0; s <= 7; s++) {
+            check.same("sum " + s + " of its own", counted.nearest(s), Numbers.of(s + 1));
         }
         // The low bits of these are those of a sum that there is.
         for (int high = 3; high < 32; high++) {
