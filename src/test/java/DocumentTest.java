@@ -3,17 +3,15 @@ import java.nio.file.DirectoryStream;
 import java.nio.file.Files;
 import java.nio.file.Path;
 import java.util.HashMap;
-import java.util.LinkedHashMap;
 import java.util.Map;
 import java.util.regex.Matcher;
 import java.util.regex.Pattern;
 
 /**
- * Every sentence of the document's terms and promises is named by a test, in the document's own
- * words; run in the project's folder.
+ * Every sentence of the document's first section, terms and promises is named by a test, in the
+ * document's own words; run in the project's folder.
  */
 public final class DocumentTest {
-    private static final Path DOCUMENT = Path.of("../shared/DOC.md");
     private static final Path TESTS = Path.of("src/test/java");
     private static final String TEXT = "\"[^\"]*\"(?:\\s*\\+\\s*\"[^\"]*\")*";
     private static final Pattern CONSTANT = Pattern.compile("String (\\w+) =\\s*(" + TEXT + ");");
@@ -22,7 +20,7 @@ public final class DocumentTest {
 
     public static void main(String[] args) throws IOException {
         Check check = new Check();
-        Map<String, String> sections = sections();
+        Map<String, String> sections = Document.sections();
         Map<String, boolean[]> covered = new HashMap<>();
         sections.forEach((name, text) -> covered.put(name, new boolean[text.length()]));
         try (DirectoryStream<Path> files = Files.newDirectoryStream(TESTS, "*Test.java")) {
@@ -30,28 +28,18 @@ public final class DocumentTest {
                 cover(check, file, sections, covered);
             }
         }
+        check.isTrue("the document says what it is", sections.containsKey("What it is"));
         check.isTrue("the document has terms", sections.containsKey("Terms"));
         for (int promise = 1; promise <= 12; promise++) {
             check.isTrue("there is promise " + promise, sections.containsKey("Promise " + promise));
         }
         for (String name : sections.keySet()) {
-            if (name.equals("Terms") || name.startsWith("Promise ")) {
+            if (name.equals("What it is") || name.equals("Terms") || name.startsWith("Promise ")) {
                 String left = left(sections.get(name), covered.get(name));
                 check.same("what no test names of " + name, left, "");
             }
         }
         check.end();
-    }
-
-    /** The document's sections by the first words of their headings, each on one line. */
-    private static Map<String, String> sections() throws IOException {
-        Map<String, String> sections = new LinkedHashMap<>();
-        for (String section : Files.readString(DOCUMENT).split("(?m)^## ")) {
-            String[] parts = section.split("\n", 2);
-            String text = parts.length == 2 ? parts[1].replaceAll("\\s+", " ").trim() : "";
-            sections.put(parts[0].split(":")[0].trim(), text);
-        }
-        return sections;
     }
 
     private static void cover(Check check, Path file, Map<String, String> sections,

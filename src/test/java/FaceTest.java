@@ -1,57 +1,85 @@
+import java.io.IOException;
 import java.lang.reflect.Constructor;
+import java.lang.reflect.Executable;
 import java.lang.reflect.Field;
 import java.lang.reflect.Method;
 import java.lang.reflect.Modifier;
-import java.util.Arrays;
+import java.util.ArrayList;
+import java.util.List;
 import java.util.Set;
+import java.util.StringJoiner;
 import java.util.TreeSet;
 
 /** The class shows the document's face and nothing besides (LANGUAGE.md, rules 1 and 5). */
 public final class FaceTest {
-    private static final String INDEX = " throws java.lang.IndexOutOfBoundsException";
-    private static final String ILLEGAL = ",java.lang.IllegalArgumentException";
-    private static final String STATE = ",java.lang.IllegalStateException";
-    private static final String[] METHODS = {
-        "public void TripleSums.clear(int)" + INDEX,
-        "public void TripleSums.add(int,long,long,long,int)" + INDEX + ILLEGAL,
-        "public void TripleSums.plus(int,int,int)" + INDEX + ILLEGAL + STATE,
-        "public int TripleSums.sign(int)" + INDEX,
-        "public int TripleSums.compare(int,int)" + INDEX,
-        "public int TripleSums.compareSizes(int,int)" + INDEX,
-        "public long TripleSums.nearest(int)" + INDEX,
-        "public int TripleSums.top(int)" + INDEX,
-        "public int TripleSums.bottom(int)" + INDEX,
-        "public boolean TripleSums.bit(int,int)" + INDEX,
-        "public long TripleSums.word(int,int)" + INDEX,
-    };
+    private static final int MEMBERS = 13;
 
-    public static void main(String[] args) {
+    public static void main(String[] args) throws Exception {
         Check check = new Check();
         Class<?> face = TripleSums.class;
         check.same("class", Modifier.toString(face.getModifiers()), "public final");
-        methods(check, face);
-        constructors(check, face);
-        fields(check, face);
+        check.same("what it extends", face.getSuperclass(), Object.class);
+        check.same("what it implements", face.getInterfaces().length, 0);
+        List<String> due = membersOfTheDocument();
+        check.same("how many members the document has", due.size(), MEMBERS);
+        check.same("members", new TreeSet<>(shownBy(face)), new TreeSet<>(due));
+        check.same("constructors", face.getDeclaredConstructors().length, 1);
+        noPrivateOneBearsAShownName(check, face);
+        statics(check, face);
         for (Class<?> inside : face.getDeclaredClasses()) {
-            int modifiers = inside.getModifiers();
-            check.isTrue(inside + " is static", Modifier.isStatic(modifiers));
-            check.isTrue(inside + " is not shown",
-                    !Modifier.isPublic(modifiers) && !Modifier.isProtected(modifiers));
+            isHidden(check, inside);
             statics(check, inside);
         }
         check.end();
     }
 
-    private static void methods(Check check, Class<?> face) {
-        Set<String> shown = new TreeSet<>();
+    /** The members in the form of shownBy: the parameters' names and the spaces behind commas go. */
+    private static List<String> membersOfTheDocument() throws IOException {
+        List<String> members = new ArrayList<>();
+        for (String member : Document.members()) {
+            members.add(member.replaceAll("\\b(int|long) \\w+(?=[,)])", "$1").replaceAll(", ", ","));
+        }
+        return members;
+    }
+
+    private static List<String> shownBy(Class<?> face) throws IllegalAccessException {
+        List<String> shown = new ArrayList<>();
+        for (Field field : face.getDeclaredFields()) {
+            if (!Modifier.isPrivate(field.getModifiers())) {
+                shown.add(Modifier.toString(field.getModifiers()) + " " + field.getType().getSimpleName()
+                        + " " + field.getName() + " = " + field.get(null));
+            }
+        }
+        for (Constructor<?> constructor : face.getDeclaredConstructors()) {
+            shown.add(written(constructor, face.getSimpleName()));
+        }
+        for (Method method : face.getDeclaredMethods()) {
+            if (!Modifier.isPrivate(method.getModifiers())) {
+                shown.add(written(method, method.getReturnType().getSimpleName() + " " + method.getName()));
+            }
+        }
+        return shown;
+    }
+
+    private static String written(Executable member, String name) {
+        StringJoiner parameters = new StringJoiner(",", "(", ")");
+        for (Class<?> type : member.getParameterTypes()) {
+            parameters.add(type.getSimpleName());
+        }
+        StringJoiner exceptions = new StringJoiner(",", " throws ", "").setEmptyValue("");
+        for (Class<?> type : member.getExceptionTypes()) {
+            exceptions.add(type.getSimpleName());
+        }
+        return Modifier.toString(member.getModifiers()) + " " + name + parameters + exceptions;
+    }
+
+    private static void noPrivateOneBearsAShownName(Check check, Class<?> face) {
         Set<String> names = new TreeSet<>();
         for (Method method : face.getDeclaredMethods()) {
             if (!Modifier.isPrivate(method.getModifiers())) {
-                shown.add(method.toString());
                 names.add(method.getName());
             }
         }
-        check.same("methods", shown, new TreeSet<>(Arrays.asList(METHODS)));
         noneBearsOneOf(check, face, names);
         for (Class<?> inside : face.getDeclaredClasses()) {
             noneBearsOneOf(check, inside, names);
@@ -66,19 +94,11 @@ public final class FaceTest {
         }
     }
 
-    private static void constructors(Check check, Class<?> face) {
-        Constructor<?>[] all = face.getDeclaredConstructors();
-        check.same("constructors", all.length, 1);
-        check.same("constructor", all[0].toString(), "public TripleSums()");
-    }
-
-    private static void fields(Check check, Class<?> face) {
-        for (Field field : face.getDeclaredFields()) {
-            if (!Modifier.isPrivate(field.getModifiers())) {
-                check.same("field", field.toString(), "public static final int TripleSums.NONE");
-            }
-        }
-        statics(check, face);
+    private static void isHidden(Check check, Class<?> inside) {
+        int modifiers = inside.getModifiers();
+        check.isTrue(inside + " is static", Modifier.isStatic(modifiers));
+        check.isTrue(inside + " is not shown",
+                !Modifier.isPublic(modifiers) && !Modifier.isProtected(modifiers));
     }
 
     private static void statics(Check check, Class<?> holder) {

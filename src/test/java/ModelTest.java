@@ -1,24 +1,17 @@
 import java.util.Random;
-import java.util.function.Supplier;
 
-/** Long runs of mixed calls, drawn from written seeds, answered as the model answers them. */
+/** Runs of 512 mixed calls, drawn from written seeds, answered as the model answers them. */
 public final class ModelTest {
     private static final int RUNS = 800;
-    // With those that compareOne makes, these stay within the 512 that an object is good for.
-    private static final int STEPS = 370;
     private static final int[] SPECIAL_TIMES = {0, 1, -1, 2, -2, 1000000, -1000000, 1000001, -1000001};
 
-    private final Check check;
     private final Random random;
-    private final String run;
-    private final TripleSums real = new TripleSums();
-    private final Model model = new Model();
+    private final Twin twin;
     private final int spread;
 
     private ModelTest(Check check, int seed) {
-        this.check = check;
         this.random = new Random(seed);
-        this.run = "run " + seed + ": ";
+        this.twin = new Twin(check, "run " + seed + ": ");
         // Some runs keep all exponents close together, so that sums meet, cancel and tie.
         this.spread = new int[] {2047, 2047, 120, 8}[seed % 4];
     }
@@ -27,55 +20,31 @@ public final class ModelTest {
         Check check = new Check();
         for (int seed = 0; seed < RUNS; seed++) {
             ModelTest test = new ModelTest(check, seed);
-            for (int i = 0; i < STEPS; i++) {
+            while (test.twin.callsLeft() > Twin.CALLS_OF_LOOK) {
                 test.call();
             }
-            test.compareOne(seed / 4 % 8);
+            test.twin.look(seed / 4 % 8);
+            check.same("calls left after run " + seed, test.twin.callsLeft(), 0);
         }
         check.end();
-    }
-
-    private void compareOne(int s) {
-        check.same(run + "sum " + s, Numbers.exact(real, s), model.sums[s]);
     }
 
     private void call() {
         int s = sum();
         int other = sum();
-        int times = times();
-        switch (random.nextInt(13)) {
-            case 0 -> {
-                if (random.nextInt(3) == 0) {
-                    both("clear(" + s + ")", done(() -> real.clear(s)), done(() -> model.clear(s)));
-                }
-            }
-            case 1, 2, 3 -> add(s, number(), number(), number(), times);
-            case 4, 5 -> both("plus(" + s + ", " + other + ", " + times + ")",
-                    done(() -> real.plus(s, other, times)), done(() -> model.plus(s, other, times)));
-            case 6 -> both("sign(" + s + ")", () -> real.sign(s), () -> model.sign(s));
-            case 7 -> both("compare(" + s + ", " + other + ")",
-                    () -> real.compare(s, other), () -> model.compare(s, other));
-            case 8 -> both("compareSizes(" + s + ", " + other + ")",
-                    () -> real.compareSizes(s, other), () -> model.compareSizes(s, other));
-            case 9 -> both("nearest(" + s + ")", () -> real.nearest(s), () -> model.nearest(s));
-            case 10 -> {
-                both("top(" + s + ")", () -> real.top(s), () -> model.top(s));
-                both("bottom(" + s + ")", () -> real.bottom(s), () -> model.bottom(s));
-            }
-            case 11 -> {
-                int p = place(s);
-                both("bit(" + s + ", " + p + ")", () -> real.bit(s, p), () -> model.bit(s, p));
-            }
-            default -> {
-                int p = place(s);
-                both("word(" + s + ", " + p + ")", () -> real.word(s, p), () -> model.word(s, p));
-            }
+        switch (random.nextInt(39)) {
+            case 0 -> twin.clear(s);
+            case 1, 2, 3, 4, 5, 6, 7, 8, 9, 10 -> twin.add(s, number(), number(), number(), times());
+            case 11, 12, 13, 14, 15, 16 -> twin.plus(s, other, times());
+            case 17, 18, 19 -> twin.sign(s);
+            case 20, 21, 22 -> twin.compare(s, other);
+            case 23, 24, 25 -> twin.compareSizes(s, other);
+            case 26, 27, 28 -> twin.nearest(s);
+            case 29, 30 -> twin.top(s);
+            case 31, 32 -> twin.bottom(s);
+            case 33, 34, 35 -> twin.bit(s, place(s));
+            default -> twin.word(s, place(s));
         }
-    }
-
-    private void add(int s, long x, long y, long z, int times) {
-        both("add(" + s + ", " + x + ", " + y + ", " + z + ", " + times + ")",
-                done(() -> real.add(s, x, y, z, times)), done(() -> model.add(s, x, y, z, times)));
     }
 
     private int sum() {
@@ -116,35 +85,16 @@ public final class ModelTest {
 
     private int place(int s) {
         int around = random.nextInt(200) - 100;
-        boolean known = s >= 0 && s < 8 && model.sums[s].signum() != 0;
+        boolean known = s >= 0 && s < 8 && twin.model.sums[s].signum() != 0;
         switch (random.nextInt(5)) {
             case 0:
-                return known ? model.top(s) + around : around;
+                return known ? twin.model.top(s) + around : around;
             case 1:
-                return known ? model.bottom(s) + around : around;
+                return known ? twin.model.bottom(s) + around : around;
             case 2:
                 return random.nextInt();
             default:
                 return random.nextInt(6600) - 3300;
-        }
-    }
-
-    private void both(String call, Supplier<Object> ours, Supplier<Object> due) {
-        check.same(run + call, answer(ours), answer(due));
-    }
-
-    private static Supplier<Object> done(Runnable call) {
-        return () -> {
-            call.run();
-            return "done";
-        };
-    }
-
-    private static Object answer(Supplier<Object> call) {
-        try {
-            return call.get();
-        } catch (RuntimeException e) {
-            return "throws." + e.getClass().getSimpleName();
         }
     }
 }
